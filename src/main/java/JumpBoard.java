@@ -337,7 +337,7 @@ public final class JumpBoard {
     }
 
     private boolean isLegal(int jumper, int round) {
-        // "Not MORE" is not "AT MOST": a round without a wind, or a board without a limit, is legal by the first alone.
+        // Not MORE is no AT MOST: where the wind or the limit is none neither holds, and the round is legal.
         return marks[at(jumper, round)] != NO_MARK
             && !valueFits(MORE, WINDS, winds[at(jumper, round)], limitWind);
     }
@@ -404,7 +404,7 @@ public final class JumpBoard {
     }
 
     private boolean jumpsBefore(int a, int b) {
-        // Those without a best need no rule of their own: their rows are empty, so each one with a best is ahead of them.
+        // Those without a best need no rule of their own: their rows are empty, so all others are ahead of them.
         return isAhead(b, a) || (!isAhead(a, b) && a < b);
     }
 

@@ -1,4 +1,5 @@
 import java.util.ArrayList;
+import java.util.Arrays;
 import java.util.Collections;
 import java.util.Comparator;
 import java.util.List;
@@ -51,7 +52,7 @@ public final class JumpBoardAgainstModel {
                 wrong++;
                 if (wrong <= SHOWN) {
                     System.out.println("run " + run + ", call " + call + ": kind " + kind
-                        + java.util.Arrays.toString(a) + " answered " + got + ", due is " + want);
+                        + Arrays.toString(a) + " answered " + got + ", due is " + want);
                 }
             }
         }
@@ -62,7 +63,7 @@ public final class JumpBoardAgainstModel {
         return (int) ((seed >>> 33) % bound);
     }
 
-    /** Jumps come often at first, so that questions meet a board with something on it. */
+    /** Jumpers come at first and jumps often, so that questions meet a board with something on it. */
     private static int kindOf(int call) {
         if (call < 6) {
             return 0;
@@ -86,7 +87,7 @@ public final class JumpBoardAgainstModel {
     }
 
     private static int[] arguments(int kind, int run) {
-        int jumper = below(7);
+        int jumper = below(8);
         int what = below(2);
         int how = below(6);
         int v = what == 0 ? mark(run) : wind(run);
@@ -112,7 +113,7 @@ public final class JumpBoardAgainstModel {
             case 6: return new int[] {how, what, jumper, below(6), below(6)};
             case 7: case 8: case 9: case 11: return new int[] {how, what, jumper, v};
             case 10: return new int[] {how, what, jumper, below(6), v};
-            case 13: return new int[] {jumper, below(7)};
+            case 13: return new int[] {jumper, below(8)};
             case 15: return new int[] {below(8)};
             case 16: return new int[] {jumper, below(6)};
             case 17: return new int[] {below(6)};
@@ -214,7 +215,8 @@ public final class JumpBoardAgainstModel {
         }
 
         private Integer jump(int jumper, int mark, int wind) {
-            if (!isIn(jumper, boards.size()) || !isSaid(0, mark) || !isSaid(1, wind) || boards.get(jumper).size() == 6) {
+            if (!isIn(jumper, boards.size()) || !isSaid(0, mark) || !isSaid(1, wind)
+                || boards.get(jumper).size() == 6) {
                 return null;
             }
             boards.get(jumper).add(new Round(heard(0, mark), heard(1, wind)));

@@ -46,6 +46,7 @@ public final class JumpBoardPromises {
         told();
         refusedCallsChangeNothing();
         objectsAreApart();
+        fullBoard();
         System.out.println(wrong == 0 ? "all promises hold" : wrong + " answers are not as due");
         if (wrong != 0) {
             System.exit(1);
@@ -571,6 +572,11 @@ public final class JumpBoardPromises {
         due("none ahead of it is not at least its own", x.verdict(0, 1), 1 + 4 + 128);
         due("more than the limit", x.verdict(0, 2), 1 + 2 + 128);
         due("a round that is not legal counts, too", x.verdict(0, 3), 1 + 2 + 4 + 64);
+        JumpBoard y = board(1);
+        jumps(y, 0, 100, 0, 100, 0);
+        y.record(100);
+        due("a mark of 100 is no none", y.verdict(0, 0), 1 + 2 + 4 + 8 + 32 + 128);
+        due("a mark of 100 ahead of it is no none", y.verdict(0, 1), 1 + 2 + 4 + 8 + 32);
     }
 
     private static void told() {
@@ -640,6 +646,41 @@ public final class JumpBoardPromises {
         for (int i = 0; i < before.length; i++) {
             due("state " + i, after[i], before[i]);
         }
+    }
+
+    /** Each call on the last jumper of a board on which nothing is left free. */
+    private static void fullBoard() {
+        promise = "full board";
+        JumpBoard x = board(8);
+        for (int jumper = 0; jumper < 8; jumper++) {
+            jumps(x, jumper, 600, 1, 600, 1, 600, 1, 600, 1, 600, 1, 600 + jumper, 1);
+        }
+        x.limit(1);
+        x.record(607);
+        due("enter", x.enter(9), NO);
+        due("jump", x.jump(7, 500, 0), NO);
+        due("value", x.value(0, 7, 5), 607);
+        due("fits", x.fits(MORE, 0, 7, 5, 0), 1);
+        due("count", x.count(AT_LEAST, 0, 7, 600), 6);
+        due("turned", x.turned(AT_LEAST, 0, 7, 607), 6);
+        due("longest, all fit", x.longest(LIKE, 1, 7, 1), 0);
+        due("longest, none fits", x.longest(LIKE, 1, 7, 2), 6);
+        due("skip, all fit", x.skip(LIKE, 1, 7, 0, 1), 6);
+        due("skip, all fit, from the last", x.skip(LIKE, 1, 7, 5, 1), 6);
+        due("pick", x.pick(MORE, 0, 7, 1), 607);
+        due("best", x.best(7), 607);
+        due("ahead", x.ahead(7, 6), 1);
+        due("ahead of itself", x.ahead(7, 7), 0);
+        due("verdict", x.verdict(7, 5), 1 + 2 + 4 + 8 + 32 + 64 + 128);
+        for (int jumper = 0; jumper < 8; jumper++) {
+            due("place(" + jumper + ")", x.place(jumper), 8 - jumper);
+            due("order(" + jumper + ")", x.order(jumper), jumper);
+        }
+        int[] told = {8, 48, 0, 48, 607, 1};
+        for (int what = 0; what < 6; what++) {
+            due("told(" + what + ")", x.told(what), told[what]);
+        }
+        due("undo", x.undo(7), 5);
     }
 
     private static int[] state(JumpBoard x) {
