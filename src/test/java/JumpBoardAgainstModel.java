@@ -40,7 +40,7 @@ public final class JumpBoardAgainstModel {
         JumpBoard board = new JumpBoard();
         Model model = new Model();
         for (int call = 0; call < CALLS_OF_AN_OBJECT; call++) {
-            int kind = kindOf(call);
+            int kind = kindOf(call, run);
             int[] a = arguments(kind, run);
             int got = ask(board, kind, a);
             Integer due = model.ask(kind, a);
@@ -63,12 +63,18 @@ public final class JumpBoardAgainstModel {
         return (int) ((seed >>> 33) % bound);
     }
 
-    /** Jumpers come at first and jumps often, so that questions meet a board with something on it. */
-    private static int kindOf(int call) {
-        if (call < 6) {
+    /**
+     * In most runs jumpers come at first, and jumps come often, so that questions meet a board with something on it; in
+     * half of the runs undo comes as often, so that the board still changes in the last calls.
+     */
+    private static int kindOf(int call, int run) {
+        if (call < 6 && run / 12 % 4 != 3) {
             return 0;
         }
-        return below(3) == 0 ? 1 : below(KINDS);
+        if (below(3) == 0) {
+            return run / 6 % 2 == 1 && below(2) == 0 ? 2 : 1;
+        }
+        return below(KINDS);
     }
 
     private static int mark(int run) {

@@ -7,19 +7,39 @@ import java.util.HashSet;
 import java.util.Set;
 import java.util.TreeSet;
 
-/** The class shows the document's face, and nothing beside it (LANGUAGE.md, rules 1 and 5). */
+/** The class shows the document's face, all of it and nothing beside it (LANGUAGE.md, rules 1, 2 and 5). */
 public final class JumpBoardFace {
-    private static final String[] METHODS = {
-        "enter/1", "jump/3", "undo/1", "record/1", "limit/1", "value/3", "fits/5", "count/4", "turned/4", "longest/4",
-        "skip/5", "pick/4", "best/1", "ahead/2", "place/1", "order/1", "verdict/2", "told/1"};
+    // The document's lines, so that both can be held side by side.
+    private static final String[] DUE = {
+        "public int enter(int bib);",
+        "public int jump(int jumper, int mark, int wind);",
+        "public int undo(int jumper);",
+        "public int record(int mark);",
+        "public int limit(int wind);",
+        "public int value(int what, int jumper, int round);",
+        "public int fits(int how, int what, int jumper, int a, int b);",
+        "public int count(int how, int what, int jumper, int v);",
+        "public int turned(int how, int what, int jumper, int v);",
+        "public int longest(int how, int what, int jumper, int v);",
+        "public int skip(int how, int what, int jumper, int from, int v);",
+        "public int pick(int how, int what, int jumper, int v);",
+        "public int best(int jumper);",
+        "public int ahead(int a, int b);",
+        "public int place(int jumper);",
+        "public int order(int k);",
+        "public int verdict(int jumper, int round);",
+        "public int told(int what);"};
+
+    private static final int CONSTANT = Modifier.PUBLIC | Modifier.STATIC | Modifier.FINAL;
 
     private static int wrong = 0;
 
-    public static void main(String[] args) {
+    public static void main(String[] args) throws IllegalAccessException {
         Class<?> board = JumpBoard.class;
-        hold("the class is public and final", board.getModifiers() == (Modifier.PUBLIC | Modifier.FINAL));
+        theClass(board);
         constructors(board);
         methods(board);
+        namesOfPrivateMethods(board);
         fields(board);
         System.out.println(wrong == 0 ? "the face is as due" : wrong + " parts of the face are not as due");
         if (wrong != 0) {
@@ -34,45 +54,72 @@ public final class JumpBoardFace {
         }
     }
 
+    private static void theClass(Class<?> board) {
+        hold("the class is public and final", board.getModifiers() == (Modifier.PUBLIC | Modifier.FINAL));
+        hold("it has no package", board.getPackageName().isEmpty());
+        hold("it is an Object and nothing else",
+            board.getSuperclass() == Object.class && board.getInterfaces().length == 0);
+        hold("it has no type parameters", board.getTypeParameters().length == 0);
+        for (Class<?> inside : board.getDeclaredClasses()) {
+            int modifiers = inside.getModifiers();
+            hold(inside.getName() + " is static, private or package-visible", Modifier.isStatic(modifiers)
+                && !Modifier.isPublic(modifiers) && !Modifier.isProtected(modifiers));
+        }
+    }
+
     private static void constructors(Class<?> board) {
         Constructor<?>[] all = board.getDeclaredConstructors();
         hold("one constructor", all.length == 1);
-        hold("it is public, without parameters",
-            all[0].getModifiers() == Modifier.PUBLIC && all[0].getParameterCount() == 0);
+        hold("it is public, takes nothing and throws nothing", all[0].getModifiers() == Modifier.PUBLIC
+            && all[0].getParameterCount() == 0 && all[0].getExceptionTypes().length == 0);
+    }
+
+    /** A line of the document as reflection writes the method: without the names of what it takes. */
+    private static String asShown(String line) {
+        return line.replaceAll("int \\w+([,)])", "int$1").replace(", ", ",").replace(";", "")
+            .replace("public int ", "public int JumpBoard.");
     }
 
     private static void methods(Class<?> board) {
+        Set<String> due = new TreeSet<>();
+        for (String line : DUE) {
+            due.add(asShown(line));
+        }
         Set<String> shown = new TreeSet<>();
-        Set<String> shownNames = new HashSet<>();
         for (Method method : board.getDeclaredMethods()) {
             if (!Modifier.isPrivate(method.getModifiers())) {
-                shown.add(method.getName() + "/" + method.getParameterCount());
-                shownNames.add(method.getName());
-                hold(method.getName() + " is public and no more", method.getModifiers() == Modifier.PUBLIC);
-                hold(method.getName() + " answers int", method.getReturnType() == int.class);
-                for (Class<?> parameter : method.getParameterTypes()) {
-                    hold(method.getName() + " takes int", parameter == int.class);
-                }
+                shown.add(method.toString());
             }
         }
-        Set<String> due = new TreeSet<>(Arrays.asList(METHODS));
-        hold("the methods are " + due + ", not " + shown, shown.equals(due));
-        for (Method method : board.getDeclaredMethods()) {
-            hold("no private method is named " + method.getName(),
-                !Modifier.isPrivate(method.getModifiers()) || !shownNames.contains(method.getName()));
+        for (String method : due) {
+            hold("there is " + method, shown.contains(method));
+        }
+        for (String method : shown) {
+            hold("the document has no " + method, due.contains(method));
         }
     }
 
-    private static void fields(Class<?> board) {
-        int constant = Modifier.PUBLIC | Modifier.STATIC | Modifier.FINAL;
+    private static void namesOfPrivateMethods(Class<?> board) {
+        Set<String> shown = new HashSet<>();
+        Arrays.stream(board.getDeclaredMethods()).filter(method -> !Modifier.isPrivate(method.getModifiers()))
+            .forEach(method -> shown.add(method.getName()));
+        for (Method method : board.getDeclaredMethods()) {
+            hold("no private method is named " + method.getName(),
+                !Modifier.isPrivate(method.getModifiers()) || !shown.contains(method.getName()));
+        }
+    }
+
+    private static void fields(Class<?> board) throws IllegalAccessException {
+        boolean isRefusedThere = false;
         for (Field field : board.getDeclaredFields()) {
             int modifiers = field.getModifiers();
             if (field.getName().equals("REFUSED")) {
-                hold("REFUSED is a constant of int", modifiers == constant && field.getType() == int.class);
+                isRefusedThere = modifiers == CONSTANT && field.getType() == int.class && field.getInt(null) == -1000;
             } else {
                 hold(field.getName() + " is private", Modifier.isPrivate(modifiers));
             }
             hold(field.getName() + " is final if static", !Modifier.isStatic(modifiers) || Modifier.isFinal(modifiers));
         }
+        hold("REFUSED is a constant of int, -1000", isRefusedThere);
     }
 }
